@@ -455,6 +455,7 @@ public final class VaultDoors {
     /** Voices in the order in which they were sent. */
     private static final class Voices {
         int size;
+        int lost;
         final int[] from = new int[MOST_VOICES];
         final int[] to = new int[MOST_VOICES];
         final int[] kind = new int[MOST_VOICES];
@@ -464,6 +465,7 @@ public final class VaultDoors {
 
         void copyFrom(Voices voices) {
             size = voices.size;
+            lost = voices.lost;
             System.arraycopy(voices.from, 0, from, 0, MOST_VOICES);
             System.arraycopy(voices.to, 0, to, 0, MOST_VOICES);
             System.arraycopy(voices.kind, 0, kind, 0, MOST_VOICES);
@@ -471,10 +473,10 @@ public final class VaultDoors {
             System.arraycopy(voices.distance, 0, distance, 0, MOST_VOICES);
         }
 
-        /** Returns whether there was room for it. */
-        boolean add(int sender, int hearer, int what, int ticks) {
+        void add(int sender, int hearer, int what, int ticks) {
             if (size >= MOST_VOICES) {
-                return false;
+                lost++;
+                return;
             }
             from[size] = sender;
             to[size] = hearer;
@@ -482,7 +484,6 @@ public final class VaultDoors {
             left[size] = ticks;
             distance[size] = ticks;
             size++;
-            return true;
         }
 
         /** Lets all go on by a tick; those that arrive are gone from here, and are all of arrived. */
@@ -529,7 +530,6 @@ public final class VaultDoors {
     /** All that is there at a tick, and how it goes on. */
     private static final class Vault {
         int tick;
-        int lost;
         int doorCount;
         final Door[] doors = new Door[MOST_DOORS];
         final Voices voices = new Voices();
@@ -544,7 +544,6 @@ public final class VaultDoors {
 
         void copyFrom(Vault vault) {
             tick = vault.tick;
-            lost = vault.lost;
             doorCount = vault.doorCount;
             for (int i = 0; i < doorCount; i++) {
                 doors[i].copyFrom(vault.doors[i]);
@@ -603,19 +602,13 @@ public final class VaultDoors {
             if (!isDoor(to)) {
                 return;
             }
-            if (kind == QUESTION) {
-                hearQuestion(from, to, distance);
-            } else {
-                doors[to].takeAnswer(from, kind == YES ? ANSWERED_YES : ANSWERED_NO);
-            }
-        }
-
-        private void hearQuestion(int from, int to, int distance) {
             Door hearer = doors[to];
-            if (hearer.state == OPEN) {
-                send(to, from, YES, distance);
+            if (kind != QUESTION) {
+                hearer.takeAnswer(from, kind == YES ? ANSWERED_YES : ANSWERED_NO);
+            } else if (hearer.state == OPEN) {
+                voices.add(to, from, YES, distance);
             } else if (hearer.state == BARRED) {
-                send(to, from, NO, distance);
+                voices.add(to, from, NO, distance);
             } else {
                 if (hearer.state == SHUT) {
                     wake(to);
@@ -628,13 +621,7 @@ public final class VaultDoors {
             Door woken = doors[number];
             woken.startWaiting();
             for (int i = 0; i < woken.asked; i++) {
-                send(number, woken.other[i], QUESTION, woken.distance[i]);
-            }
-        }
-
-        private void send(int from, int to, int kind, int distance) {
-            if (!voices.add(from, to, kind, distance)) {
-                lost++;
+                voices.add(number, woken.other[i], QUESTION, woken.distance[i]);
             }
         }
 
@@ -648,7 +635,7 @@ public final class VaultDoors {
             waiting.decide();
             boolean opened = waiting.state == OPEN;
             for (int i = 0; i < waiting.remembered; i++) {
-                send(number, waiting.asker[i], opened ? YES : NO, waiting.askerDistance[i]);
+                voices.add(number, waiting.asker[i], opened ? YES : NO, waiting.askerDistance[i]);
             }
             waiting.forget();
             return opened;
@@ -691,7 +678,7 @@ public final class VaultDoors {
                 case 6:
                     return voices.size;
                 case 7:
-                    return lost;
+                    return voices.lost;
                 default:
                     return openDoors();
             }

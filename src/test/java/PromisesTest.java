@@ -345,6 +345,7 @@ public final class PromisesTest {
         due("reach(2) of a door that a ring asks", 3, x.reach(2));
         x.ask(0, 9, 1);
         due("reach(0) up a ring of ten", 1023, x.reach(0));
+        due("reach(5) on a ring of ten, past the door 0", 1023, x.reach(5));
         refused(x, "reach(10)", INDEX, () -> x.reach(10));
         refused(x, "reach(-1)", INDEX, () -> x.reach(-1));
     }
@@ -391,6 +392,19 @@ public final class PromisesTest {
         x.pass(1);
         due("opens(0) of an open door", 0, x.opens(0));
         due("opens(1) of an open door", 0, x.opens(1));
+        VaultDoors asking = vaultOf(4, 20, 0);
+        asking.ask(0, 2, 1);
+        asking.ask(1, 2, 3);
+        asking.ask(2, 3, 5);
+        asking.whisper(0, 0);
+        asking.whisper(1, 1);
+        asking.pass(3);
+        due("remembers both questions: door(2, 6)", 2, asking.door(2, 6));
+        due("opens(0), which 2 remembers", 9, asking.opens(0));
+        due("opens(1), which 2 remembers", 11, asking.opens(1));
+        asking.pass(24);
+        due("opens(0), when 2 remembers none", -1, asking.opens(0));
+        due("would(0, 1), when 2 remembers none", 0, asking.would(0, 1));
         refused(x, "opens(3)", INDEX, () -> x.opens(3));
         refused(x, "opens(-1)", INDEX, () -> x.opens(-1));
     }
@@ -463,6 +477,13 @@ public final class PromisesTest {
         open.whisper(0, 0);
         open.pass(1);
         dueMean("all opened", 1.0, open.mean());
+        VaultDoors ten = vaultOf(10, 1, 0);
+        ten.whisper(9, 9);
+        ten.whisper(0, 50);
+        ten.whisper(4, 50);
+        ten.whisper(5, 50);
+        ten.pass(1);
+        dueMean("one of four, of ten doors", 0.25, ten.mean());
     }
 
     private static long checksum(VaultDoors x) {
