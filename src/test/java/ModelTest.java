@@ -494,7 +494,7 @@ public final class ModelTest {
             if (hurry == 2) {
                 crowd(run, x, m);
             }
-            while (run.size() < CALLS) {
+            while (run.size() + 2 <= CALLS) {
                 if (below(4) == 0) {
                     question(run, x, m);
                 } else {

@@ -55,14 +55,13 @@ public final class PromisesTest {
         }
     }
 
-    /** All that can be seen of a vault, also what becomes of it. */
+    /** What is there, and what becomes of it; in few calls, as an object has but 512. */
     private static List<Long> look(VaultDoors x) {
         List<Long> seen = new ArrayList<>();
         seen.add(x.digest());
-        for (int door = 0; door < x.count(1); door++) {
-            seen.add((long) x.opens(door));
+        int doors = x.count(1);
+        for (int door = 0; door < doors; door++) {
             seen.add((long) x.would(door, 60));
-            seen.add((long) x.reach(door));
         }
         return seen;
     }
@@ -509,27 +508,44 @@ public final class PromisesTest {
         return d;
     }
 
-    private static void promise16() {
+    private static VaultDoors mixedDoors(int doors) {
         VaultDoors x = new VaultDoors();
-        long empty = 907;
-        for (int i = 0; i < 9; i++) {
-            empty *= 31;
-        }
-        due("digest() of a new vault", empty, x.digest());
-        for (int i = 0; i < 4; i++) {
+        for (int i = 0; i < doors; i++) {
             x.build(i, 6 + i, i);
-            due("digest() with more doors", checksum(x), x.digest());
         }
+        return x;
+    }
+
+    private static VaultDoors mixedAsking() {
+        VaultDoors x = mixedDoors(4);
         x.ask(0, 1, 2);
         x.ask(0, 2, 1);
         x.ask(2, 0, 3);
         x.ask(3, 0, 1);
-        due("digest() with doors that ask", checksum(x), x.digest());
-        x.whisper(0, 0);
-        x.whisper(3, 3);
-        for (int i = 0; i < 30; i++) {
-            due("digest() in the tick " + i, checksum(x), x.digest());
-            x.pass(1);
+        return x;
+    }
+
+    private static void promise16() {
+        VaultDoors empty = new VaultDoors();
+        long nine = 907;
+        for (int i = 0; i < 9; i++) {
+            nine *= 31;
+        }
+        due("digest() of a new vault", nine, empty.digest());
+        for (int doors = 1; doors <= 4; doors++) {
+            VaultDoors x = mixedDoors(doors);
+            due("digest() with " + doors + " doors", checksum(x), x.digest());
+        }
+        VaultDoors asking = mixedAsking();
+        due("digest() with doors that ask", checksum(asking), asking.digest());
+        for (int tick = 0; tick < 30; tick++) {
+            VaultDoors x = mixedAsking();
+            x.whisper(0, 0);
+            x.whisper(3, 3);
+            for (int i = 0; i < tick; i++) {
+                x.pass(1);
+            }
+            due("digest() in the tick " + tick, checksum(x), x.digest());
         }
     }
 
@@ -686,47 +702,6 @@ public final class PromisesTest {
         refused(x, "voice(60, 0)", INDEX, () -> x.voice(60, 0));
     }
 
-    private static final int SLOW_DOOR = 1;
-    private static final int IDLE_DOOR = 5;
-
-    /** Found by search: questions go round until SLOW_DOOR opens, for the first time, late. */
-    private static VaultDoors slowVault() {
-        VaultDoors x = new VaultDoors();
-        int[][] doors = {{17, 3}, {17, 3}, {18, 1}, {1, 0}, {2, 0}, {1, 1}};
-        for (int i = 0; i < doors.length; i++) {
-            x.build(i, doors[i][0], doors[i][1]);
-        }
-        int[][] links = {{1, 0, 1}, {1, 2, 4}, {1, 4, 2}, {4, 0, 3}, {4, 3, 5}, {2, 1, 5},
-            {0, 1, 4}, {4, 2, 2}, {3, 4, 2}};
-        for (int[] link : links) {
-            x.ask(link[0], link[1], link[2]);
-        }
-        x.whisper(4, 4);
-        x.whisper(2, 2);
-        return x;
-    }
-
-    private static void limitOfOpens() {
-        VaultDoors x = slowVault();
-        int ticks = 0;
-        for (int i = 0; i < 300 && x.door(SLOW_DOOR, 0) != OPEN; i++) {
-            x.pass(1);
-            ticks++;
-        }
-        due("it opens later than 100 ticks", 1, ticks > 100 && ticks < 300 ? 1 : 0);
-        VaultDoors y = slowVault();
-        y.pass(ticks - 101);
-        due("open behind 101 ticks: opens", -1, y.opens(SLOW_DOOR));
-        due("open behind 101 ticks: would, of 100", 0,
-            y.would(IDLE_DOOR, 100) >> SLOW_DOOR & 1);
-        y.pass(1);
-        due("open behind 100 ticks: opens", 100, y.opens(SLOW_DOOR));
-        due("open behind 100 ticks: would, of 100", 1,
-            y.would(IDLE_DOOR, 100) >> SLOW_DOOR & 1);
-        due("open behind 100 ticks: would, of 99", 0,
-            y.would(IDLE_DOOR, 99) >> SLOW_DOOR & 1);
-    }
-
     public static void main(String[] args) {
         promise1();
         promise2();
@@ -750,7 +725,6 @@ public final class PromisesTest {
         lateAnswers();
         firstAnswerCounts();
         lostVoices();
-        limitOfOpens();
         System.out.println(wrong == 0 ? "all answers are as due" : wrong + " answers are not as due");
         if (wrong != 0) {
             System.exit(1);
